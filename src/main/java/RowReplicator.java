@@ -223,7 +223,8 @@ public final class RowReplicator {
             throw new IllegalStateException("the state of the subscriber is not 2");
         }
         stopped.state = FOLLOWING;
-        if (skips) {
+        // A stopped one has a commit to skip, but as the slot is an index later, it is looked at.
+        if (skips && stopped.slot < publisher.commitCount) {
             stopped.slot++;
         }
         return stopped.slot;

@@ -64,6 +64,13 @@ public final class RowReplicatorFace {
         due(program.getModifiers() == (Modifier.PUBLIC | Modifier.FINAL), "the class is not public final");
         due(program.getDeclaredConstructors().length == 1, "there is not one constructor");
         due(program.getConstructors().length == 1, "the constructor is not public");
+        due(program.getPackageName().isEmpty(), "the class is in a package");
+        due(program.getSuperclass() == Object.class && program.getInterfaces().length == 0,
+            "the class is of another kind, too");
+        for (Class<?> inside : program.getDeclaredClasses()) {
+            int shown = inside.getModifiers() & (Modifier.PUBLIC | Modifier.PROTECTED);
+            due(shown == 0, "a class inside is shown: " + inside);
+        }
         for (Field field : program.getDeclaredFields()) {
             due(Modifier.isPrivate(field.getModifiers()), "not private: " + field);
         }
